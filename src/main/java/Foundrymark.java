@@ -543,7 +543,7 @@ public final class Foundrymark {
         if (machine != null) {
             order.state = WAITS;
         }
-        order.job.machine = machine;
+        order.job.waitsAt = machine;
         return machine;
     }
 
@@ -560,7 +560,7 @@ public final class Foundrymark {
     private int countWaiting(Machine machine) {
         int count = 0;
         for (Order order : orders) {
-            if (order != null && order.waitsFor(machine)) {
+            if (order != null && order.job.waitsAt == machine) {
                 count++;
             }
         }
@@ -570,7 +570,7 @@ public final class Foundrymark {
     private Order firstWaiting(Machine machine) {
         Order first = null;
         for (Order order : orders) {
-            if (order != null && order.waitsFor(machine)
+            if (order != null && order.job.waitsAt == machine
                     && (first == null || order.due < first.due)) {
                 first = order;
             }
@@ -601,6 +601,7 @@ public final class Foundrymark {
         if (operation != null) {
             machine.begin(order, operation.time * order.job.pieces, now);
             order.state = AT_WORK;
+            order.job.waitsAt = null;
         }
     }
 
@@ -941,7 +942,6 @@ public final class Foundrymark {
         void begin(int newCentre, int newWidth) {
             centre = newCentre;
             width = newWidth;
-            side = 0;
             row = 0;
         }
 
@@ -1068,10 +1068,6 @@ public final class Foundrymark {
             return state == WAITS || state == AT_WORK;
         }
 
-        boolean waitsFor(Machine machine) {
-            return state == WAITS && job.machine == machine;
-        }
-
         boolean isSoundAlone() {
             boolean isReleased = isInWork() || job.finishedAt != NONE;
             boolean isWhole = job.pieces + job.scrapped == (isReleased ? quantity : 0);
@@ -1086,7 +1082,7 @@ public final class Foundrymark {
         int operation;
         int finishedAt = NONE;
         long cost;
-        Machine machine;
+        Machine waitsAt;
         Lot lot;
     }
 }

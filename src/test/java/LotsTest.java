@@ -23,6 +23,7 @@ public final class LotsTest {
         measuringHeldLots();
         restsAndCosts();
         numbersOfLots();
+        ninetyLots();
         CHECK.close();
     }
 
@@ -228,17 +229,19 @@ public final class LotsTest {
         CHECK.fails("measure(-1, 2001)", INDEX, () -> x.measure(-1, 2001));
         CHECK.fails("value -1", ARGUMENT, () -> x.measure(0, -1));
         CHECK.fails("value 2001", ARGUMENT, () -> x.measure(0, 2001));
+        CHECK.same("2000", x.measure(0, 2000), true);
+        x.hold(0, false);
         CHECK.same("110 lies within", x.measure(0, 110), false);
         CHECK.same("90 lies within", x.measure(0, 90), false);
         CHECK.same("111 lies without", x.measure(0, 111), true);
         CHECK.same("isHeld(0)", x.isHeld(0), true);
         x.hold(0, false);
         CHECK.same("89 lies without", x.measure(0, 89), true);
-        CHECK.same("setChart", x.setChart(0, 1000, 500), 4);
+        CHECK.same("setChart", x.setChart(0, 1000, 500), 5);
         x.hold(0, false);
         CHECK.same("1500 lies within", x.measure(0, 1500), false);
         CHECK.same("1501 lies without", x.measure(0, 1501), true);
-        CHECK.same("by whatever chart", x.setChart(0, 0, 0), 6);
+        CHECK.same("by whatever chart", x.setChart(0, 0, 0), 7);
         x.hold(0, false);
         CHECK.same("0 of width 0", x.measure(0, 0), false);
         CHECK.same("1 of width 0", x.measure(0, 1), true);
@@ -342,5 +345,41 @@ public final class LotsTest {
             CHECK.fails("reserved", INDEX, () -> x.reserved(lot));
             CHECK.fails("costOf", INDEX, () -> x.costOf(lot));
         }
+    }
+
+    private static void ninetyLots() {
+        Foundrymark x = chain();
+        for (int i = 0; i < 60; i++) {
+            x.receive(0, 1, 1, 0, 0);
+        }
+        for (int i = 0; i < 15; i++) {
+            x.order(1, 4, 0, 0);
+            x.release(i);
+        }
+        for (int i = 15; i < 30; i++) {
+            x.order(2, 4, 0, 0);
+            x.release(i);
+        }
+        CHECK.same("lots()", x.lots(), 90);
+        for (int i = 0; i < 30; i++) {
+            CHECK.same("lotOf(" + i + ")", x.lotOf(i), 60 + i);
+        }
+        for (int lot = 60; lot < 75; lot++) {
+            x.hold(lot, true);
+            for (int other = 75; other < 90; other++) {
+                CHECK.same("isHeld(" + other + ")", x.isHeld(other), other == lot + 15);
+                CHECK.same("isIn(" + lot + ", " + other + ")", x.isIn(lot, other),
+                        other == lot + 15);
+            }
+            x.hold(lot, false);
+            CHECK.same("isHeld(" + lot + ")", x.isHeld(lot), false);
+            CHECK.same("4 bought ones in it", x.isIn((lot - 60) * 4, lot + 15), true);
+            CHECK.same("and no other's", x.isIn((lot - 60) * 4 + 4, lot + 15), false);
+        }
+        x.deliver(29);
+        CHECK.same("lotsIn(29)", x.lotsIn(29), 6);
+        CHECK.same("touched(74)", x.touched(74), 1);
+        CHECK.same("touched(73)", x.touched(73), 0);
+        CHECK.same("isSound()", x.isSound(), true);
     }
 }

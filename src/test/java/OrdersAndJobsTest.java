@@ -17,6 +17,7 @@ public final class OrdersAndJobsTest {
         withdrawing();
         releasing();
         samePartTwice();
+        samePartTakenOnce();
         scrapping();
         scrappingAll();
         advancing();
@@ -165,6 +166,26 @@ public final class OrdersAndJobsTest {
         x.receive(0, 1, 1, 0, 0);
         CHECK.same("10 of 10", x.promise(0), true);
         CHECK.same("withdraw(0)", x.withdraw(0), 10);
+    }
+
+    /** The pieces of one lot that are reserved for two components are taken at one go. */
+    private static void samePartTakenOnce() {
+        Foundrymark x = new Foundrymark();
+        x.addMachine(1, 0, 500, 1);
+        x.addPart(true, 0);
+        x.addPart(true, 0);
+        x.addOperation(0, 0, -1, 1);
+        x.addComponent(1, 0, 1, -1);
+        x.addComponent(1, 0, 1, -1);
+        x.order(0, 6, 0, 0);
+        x.release(0);
+        x.scrap(0, 2);
+        x.advance(6);
+        CHECK.same("the lot of 4 pieces costs", x.costOf(0), 6);
+        x.order(1, 1, 0, 0);
+        x.release(1);
+        CHECK.same("6 * 2 / 4", x.costOf(1), 3);
+        CHECK.same("the rest costs", x.costOf(0), 3);
     }
 
     private static void scrapping() {

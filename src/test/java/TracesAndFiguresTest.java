@@ -184,6 +184,19 @@ public final class TracesAndFiguresTest {
             open(bits, "low").setLong(bits, 0);
             CHECK.same("isSound() without " + field, x.isSound(), false);
         }
+        for (String field : new String[] {"pieces", "scrapped", "cost"}) {
+            Foundrymark x = traced();
+            Object job = read(Array.get(read(x, "orders"), 0), "job");
+            Field told = open(job, field);
+            told.set(job, told.getType() == long.class ? (Object) 77L : (Object) 77);
+            CHECK.same("isSound() with a job of another " + field, x.isSound(), false);
+        }
+        for (int order = 0; order < 4; order++) {
+            Foundrymark x = traced();
+            Object told = Array.get(read(x, "orders"), order);
+            open(told, "delivered").setInt(told, 1);
+            CHECK.same("isSound() with other deliveries", x.isSound(), false);
+        }
         Foundrymark x = traced();
         x.order(2, 1, 0, 0);
         x.promise(4);
