@@ -347,24 +347,37 @@ public final class LotsTest {
         }
     }
 
-    private static void ninetyLots() {
+    /** Lots 0 to 59 are bought, 60 to 74 are made of four of these each, 75 to 89 of those. */
+    private static Foundrymark ninety() {
         Foundrymark x = chain();
         for (int i = 0; i < 60; i++) {
             x.receive(0, 1, 1, 0, 0);
         }
-        for (int i = 0; i < 15; i++) {
-            x.order(1, 4, 0, 0);
+        for (int i = 0; i < 30; i++) {
+            x.order(i < 15 ? 1 : 2, 4, 0, 0);
             x.release(i);
         }
-        for (int i = 15; i < 30; i++) {
-            x.order(2, 4, 0, 0);
-            x.release(i);
-        }
+        return x;
+    }
+
+    private static void ninetyLots() {
+        Foundrymark x = ninety();
         CHECK.same("lots()", x.lots(), 90);
         for (int i = 0; i < 30; i++) {
             CHECK.same("lotOf(" + i + ")", x.lotOf(i), 60 + i);
         }
-        for (int lot = 60; lot < 75; lot++) {
+        x.deliver(29);
+        CHECK.same("lotsIn(29)", x.lotsIn(29), 6);
+        CHECK.same("touched(74)", x.touched(74), 1);
+        CHECK.same("touched(73)", x.touched(73), 0);
+        CHECK.same("isSound()", x.isSound(), true);
+        ninetyLotsAreHeld(60, 67);
+        ninetyLotsAreHeld(67, 75);
+    }
+
+    private static void ninetyLotsAreHeld(int from, int to) {
+        Foundrymark x = ninety();
+        for (int lot = from; lot < to; lot++) {
             x.hold(lot, true);
             for (int other = 75; other < 90; other++) {
                 CHECK.same("isHeld(" + other + ")", x.isHeld(other), other == lot + 15);
@@ -376,10 +389,5 @@ public final class LotsTest {
             CHECK.same("4 bought ones in it", x.isIn((lot - 60) * 4, lot + 15), true);
             CHECK.same("and no other's", x.isIn((lot - 60) * 4 + 4, lot + 15), false);
         }
-        x.deliver(29);
-        CHECK.same("lotsIn(29)", x.lotsIn(29), 6);
-        CHECK.same("touched(74)", x.touched(74), 1);
-        CHECK.same("touched(73)", x.touched(73), 0);
-        CHECK.same("isSound()", x.isSound(), true);
     }
 }

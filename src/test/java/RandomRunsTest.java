@@ -104,10 +104,10 @@ public final class RandomRunsTest {
     }
 
     private int part(boolean isMade) {
-        int part = number(0, plain.parts.size() - 1);
+        int part = number(0, Math.max(0, plain.parts.size() - 1));
         for (int i = 0; i < 20 && part >= 0 && part < plain.parts.size()
                 && plain.parts.get(part).isMade != isMade; i++) {
-            part = number(0, plain.parts.size() - 1);
+            part = number(0, Math.max(0, plain.parts.size() - 1));
         }
         return part;
     }
