@@ -176,6 +176,7 @@ public final class JobsEdgesTest {
         brokenMachinesHaveNoJobs();
         theMachineItself();
         atTheSecondOperation();
+        whatEndedIsDoneNoMore();
     }
 
     private static void asManyJobsThere() {
@@ -296,6 +297,35 @@ public final class JobsEdgesTest {
         x.advance(1);
         CHECK.same("the third to the machine", x.waiting(1), 1);
         CHECK.same("waiting(2)", x.waiting(2), 0);
+    }
+
+    private static void whatEndedIsDoneNoMore() {
+        CHECK.of("Terms, Jobs: are being done there: what has ended there is done no more");
+        Foundrymark x = machines(2);
+        int stays = part(x, 0, -1, 3);
+        x.addOperation(stays, 0, 1, 3);
+        Workshop.job(x, stays, 1, 0);
+        x.advance(3);
+        CHECK.same("none at either: to the machine again", x.machineIs(0), 'o');
+        CHECK.same("machineIs(1)", x.machineIs(1), '-');
+        Foundrymark y = machines(2);
+        int returns = part(y, 0, -1, 3);
+        y.addOperation(returns, 1, 0, 3);
+        int other = part(y, 1, -1, 9);
+        Workshop.job(y, returns, 1, 0);
+        Workshop.job(y, other, 1, 0);
+        y.advance(3);
+        CHECK.same("1 against none: to the alternative one", y.machineIs(0), 'o');
+        CHECK.same("waiting(1)", y.waiting(1), 0);
+        Foundrymark z = machines(2);
+        int leaves = part(z, 0, -1, 3);
+        z.addOperation(leaves, 0, 1, 3);
+        Workshop.job(z, leaves, 1, 0);
+        Workshop.job(z, leaves, 1, 9);
+        z.advance(3);
+        CHECK.same("1 waiting against none: to the alternative one", z.machineIs(1), 'o');
+        CHECK.same("what waited begins", z.stateOf(1), 'o');
+        CHECK.same("waiting(0)", z.waiting(0), 0);
     }
 
     // ---- which job a machine does

@@ -557,6 +557,7 @@ public final class OrdersEdgesTest {
         promise23NotWhatIsReserved();
         promise23BoughtPart();
         promise23OwnIsUsedUp();
+        promise23UpToTheLastLot();
     }
 
     private static void promise23WhichOrders() {
@@ -698,6 +699,30 @@ public final class OrdersEdgesTest {
         CHECK.same("of the others alone", x.deliver(0), true);
         CHECK.same("lotsIn(0)", x.lotsIn(0), 2);
         CHECK.same("isIn: touched(1)", x.touched(1), 0);
+    }
+
+    private static void promise23UpToTheLastLot() {
+        CHECK.of("Terms, Delivering: then the others by rising numbers, up to the 90th");
+        Foundrymark x = Workshop.fullOfLots();
+        for (int i = 0; i < 29; i++) {
+            Workshop.job(x, 1, 1, 0);
+        }
+        Workshop.job(x, 1, 29, 0);
+        x.hold(89, true);
+        x.hold(88, true);
+        CHECK.same("the last but one is held too", x.deliver(29), false);
+        x.hold(88, false);
+        CHECK.same("all others are needed", x.deliver(29), true);
+        CHECK.same("rest(60)", x.rest(60), 0);
+        CHECK.same("rest(88)", x.rest(88), 0);
+        CHECK.same("rest(89)", x.rest(89), 29);
+        CHECK.same("deliveredCost(29)", x.deliveredCost(29), 29 * 3);
+        CHECK.same("29 made ones of 15 bought ones", x.lotsIn(29), 44);
+        CHECK.same("touched(88)", x.touched(88), 1);
+        CHECK.same("touched(89)", x.touched(89), 0);
+        CHECK.same("touched(14)", x.touched(14), 1);
+        CHECK.same("touched(15)", x.touched(15), 0);
+        CHECK.same("isSound()", x.isSound(), true);
     }
 
     // ---- promises 24 to 26
