@@ -16,8 +16,46 @@ import java.util.Set;
 public final class FaceTest {
     private static final Check CHECK = new Check("FaceTest");
     private static final Class<Foundrymark> PROGRAM = Foundrymark.class;
-    private static final Path DOCUMENT = Path.of("../shared/DOC.md");
     private static final Path SOURCE = Path.of("src/main/java/Foundrymark.java");
+    /** The document's lines, with the types of the parameters, and the tests' exception names. */
+    private static final String FACE = """
+            Foundrymark()
+            int addMachine(int, int, int, int) throws ARGUMENT, STATE
+            int addPart(boolean, int) throws ARGUMENT, STATE
+            int addComponent(int, int, int, int) throws INDEX, UNSUPPORTED, ARGUMENT, STATE
+            int addOperation(int, int, int, int) throws INDEX, UNSUPPORTED, ARGUMENT, STATE
+            int receive(int, int, int, int, int) throws INDEX, UNSUPPORTED, ARGUMENT, STATE
+            char rule(int) throws INDEX
+            int hold(int, boolean) throws INDEX
+            boolean isHeld(int) throws INDEX
+            int setChart(int, int, int) throws INDEX, ARGUMENT
+            boolean measure(int, int) throws INDEX, ARGUMENT
+            int lots()
+            int partOf(int) throws INDEX
+            int rest(int) throws INDEX
+            int reserved(int) throws INDEX
+            long costOf(int) throws INDEX
+            int order(int, int, int, int) throws INDEX, ARGUMENT, STATE
+            boolean promise(int) throws INDEX, UNSUPPORTED
+            int withdraw(int) throws INDEX, UNSUPPORTED
+            boolean release(int) throws INDEX, UNSUPPORTED
+            int scrap(int, int) throws INDEX, UNSUPPORTED, ARGUMENT
+            int advance(int) throws ARGUMENT, STATE
+            boolean deliver(int) throws INDEX, UNSUPPORTED
+            char stateOf(int) throws INDEX
+            int lotOf(int) throws INDEX, NO_SUCH
+            int finishedAt(int) throws INDEX, NO_SUCH
+            char machineIs(int) throws INDEX
+            int wear(int) throws INDEX
+            int waiting(int) throws INDEX
+            boolean isIn(int, int) throws INDEX
+            int touched(int) throws INDEX
+            int lotsIn(int) throws INDEX
+            long deliveredCost(int) throws INDEX, NO_SUCH
+            float inTimeShare() throws ARITHMETIC
+            double meanBusy() throws ARITHMETIC
+            boolean isSound()
+            """;
     private static final Set<String> IMPORTS = Set.of(
             "import java.util.ArrayList;", "import java.util.Arrays;",
             "import java.util.Iterator;", "import java.util.List;",
@@ -34,15 +72,8 @@ public final class FaceTest {
         CHECK.close();
     }
 
-    private static void faceOfTheDocument() throws IOException {
+    private static void faceOfTheDocument() {
         CHECK.of("The public face");
-        List<String> due = new ArrayList<>();
-        for (String line : Files.readAllLines(DOCUMENT)) {
-            String text = line.trim();
-            if (text.startsWith("public ") && text.contains("(")) {
-                due.add(withoutNames(text.substring("public ".length(), text.length() - 1)));
-            }
-        }
         List<String> got = new ArrayList<>();
         for (Constructor<?> constructor : PROGRAM.getConstructors()) {
             got.add(asText("", PROGRAM.getSimpleName(), constructor));
@@ -53,24 +84,27 @@ public final class FaceTest {
                         method.getName(), method));
             }
         }
+        List<String> due = new ArrayList<>(List.of(FACE.strip().split("\n")));
         Collections.sort(due);
         Collections.sort(got);
         CHECK.same("lines of the face", due.size(), 36);
         CHECK.same("the face", String.join("\n", got), String.join("\n", due));
     }
 
-    /** A line of the face with the types of the parameters alone. */
-    private static String withoutNames(String line) {
-        int open = line.indexOf('(');
-        int close = line.indexOf(')');
-        String inside = line.substring(open + 1, close).replaceAll("(\\w+) \\w+", "$1");
-        return line.substring(0, open + 1) + inside + line.substring(close);
-    }
-
     private static String asText(String before, String name, Executable call) {
         return before + name + "(" + names(call.getParameterTypes()) + ")"
                 + (call.getExceptionTypes().length > 0 ? " throws " : "")
-                + names(call.getExceptionTypes());
+                + kinds(call.getExceptionTypes());
+    }
+
+    /** The exceptions by the names that the tests give them. */
+    private static String kinds(Class<?>[] types) {
+        return names(types).replace("IndexOutOfBoundsException", "INDEX")
+                .replace("UnsupportedOperationException", "UNSUPPORTED")
+                .replace("IllegalArgumentException", "ARGUMENT")
+                .replace("IllegalStateException", "STATE")
+                .replace("NoSuchElementException", "NO_SUCH")
+                .replace("ArithmeticException", "ARITHMETIC");
     }
 
     private static String names(Class<?>[] types) {
